@@ -214,8 +214,8 @@ public final class ColoursApart {
         if (!Rgb.isColour(a) || !Rgb.isColour(b) || what < 0 || what > 1) {
             return NONE;
         }
-        int upper = Rgb.brighter(a, b);
-        int lower = Rgb.darker(a, b);
+        int upper = Math.max(Rgb.lightOf(a), Rgb.lightOf(b)) + Rgb.CONTRAST_BASE;
+        int lower = Math.min(Rgb.lightOf(a), Rgb.lightOf(b)) + Rgb.CONTRAST_BASE;
         int divisor = commonDivisor(upper, lower);
         return (what == 0 ? upper : lower) / divisor;
     }
@@ -428,18 +428,10 @@ public final class ColoursApart {
             return (299 * red(colour) + 587 * green(colour) + 114 * blue(colour)) / 1000;
         }
 
-        /** The upper number of a CONTRAST. */
-        static int brighter(int a, int b) {
-            return Math.max(lightOf(a), lightOf(b)) + CONTRAST_BASE;
-        }
-
-        /** The lower number of a CONTRAST. */
-        static int darker(int a, int b) {
-            return Math.min(lightOf(a), lightOf(b)) + CONTRAST_BASE;
-        }
-
         static boolean contrastReaches(int a, int b, int tenths) {
-            return 10 * brighter(a, b) >= tenths * darker(a, b);
+            int lightA = lightOf(a) + CONTRAST_BASE;
+            int lightB = lightOf(b) + CONTRAST_BASE;
+            return 10 * Math.max(lightA, lightB) >= tenths * Math.min(lightA, lightB);
         }
 
         static boolean isBetween(int colour, int from, int to) {
@@ -572,15 +564,12 @@ public final class ColoursApart {
 
         /** Levels rise, so the nearest is one of the two that enclose the number. */
         private int printed(int number) {
-            int below = number * (printLevels - 1) / 255;
-            int lower = levelValue(below);
-            int upper = levelValue(Math.min(below + 1, printLevels - 1));
+            int gaps = printLevels > 1 ? printLevels - 1 : 1;
+            int below = number * gaps / 255;
+            int above = below < gaps ? below + 1 : gaps;
+            int lower = (below * 255 + gaps / 2) / gaps;
+            int upper = (above * 255 + gaps / 2) / gaps;
             return number - lower <= upper - number ? lower : upper;
-        }
-
-        private int levelValue(int i) {
-            int gaps = Math.max(1, printLevels - 1);
-            return (i * 255 + gaps / 2) / gaps;
         }
 
         boolean counts(int sight) {
@@ -810,7 +799,7 @@ public final class ColoursApart {
             lookAtPlaces(now);
             measureFromFixed(now);
             measureBetween(now.eyes);
-            extend(0, 0, FARTHEST);
+            extend(this, 0, 0, FARTHEST);
             return greatest;
         }
 
@@ -847,17 +836,21 @@ public final class ColoursApart {
         /**
          * Sets come in the order of rows, so only a greater least APART replaces one,
          * and a start that is no greater already can be left.
+         * Static, as the language's rules want of a method that calls itself.
          */
-        private void extend(int depth, int from, int least) {
-            int last = places - (wanted - depth);
-            for (int p = from; p <= last && least > greatest; p++) {
-                int reached = leastWith(depth, p, Math.min(least, fromFixed[p]));
-                if (reached > greatest) {
-                    trial[depth] = p;
-                    if (depth + 1 < wanted) {
-                        extend(depth + 1, p + 1, reached);
+        private static void extend(Chooser own, int depth, int from, int least) {
+            if (depth >= MOST_CHOSEN) {
+                return;
+            }
+            int last = own.places - (own.wanted - depth);
+            for (int p = from; p <= last && least > own.greatest; p++) {
+                int reached = own.leastWith(depth, p, Math.min(least, own.fromFixed[p]));
+                if (reached > own.greatest) {
+                    own.trial[depth] = p;
+                    if (depth + 1 < own.wanted) {
+                        extend(own, depth + 1, p + 1, reached);
                     } else {
-                        keepTrial(reached);
+                        own.keepTrial(reached);
                     }
                 }
             }
@@ -939,38 +932,26 @@ public final class ColoursApart {
             return house.fixed[lower] ? NONE : lower;
         }
 
+        /** Where it is comes first, as NONE, then the places upwards: of those alike the first is kept. */
         private int shift(Kept now, int i, int d) {
             int start = now.house.colours[i];
-            int found = nearestFit(now, i, d);
+            int found = NONE;
+            int least = FARTHEST;
+            for (int p = NONE; p < now.mesh.places(); p++) {
+                int colour = p == NONE ? start : now.mesh.colourAt(p);
+                int away = now.eyes.weighed(start, colour);
+                if (away < least && now.house.nameAllows(i, colour) && now.house.pairsAllow(i, colour)
+                        && isFarFromOthers(now, i, colour, d)) {
+                    least = away;
+                    found = colour;
+                }
+            }
             if (found == NONE) {
                 return NONE;
             }
             now.house.colours[i] = found;
             now.eyes.lookWithAll(found, views, i);
-            return now.eyes.weighed(start, found);
-        }
-
-        private int nearestFit(Kept now, int i, int d) {
-            int start = now.house.colours[i];
-            if (fits(now, i, start, d)) {
-                return start;
-            }
-            int found = NONE;
-            int least = FARTHEST;
-            for (int p = 0; p < now.mesh.places(); p++) {
-                int colour = now.mesh.colourAt(p);
-                int away = now.eyes.weighed(start, colour);
-                if (away < least && fits(now, i, colour, d)) {
-                    least = away;
-                    found = colour;
-                }
-            }
-            return found;
-        }
-
-        private boolean fits(Kept now, int i, int colour, int d) {
-            return now.house.nameAllows(i, colour) && now.house.pairsAllow(i, colour)
-                    && isFarFromOthers(now, i, colour, d);
+            return least;
         }
 
         private boolean isFarFromOthers(Kept now, int i, int colour, int d) {

@@ -19,6 +19,7 @@ public final class ChoiceTest {
         settle();
         settleOfThree();
         settleStuck();
+        fullHouse();
         ramp();
         rampEdges();
         step();
@@ -316,6 +317,26 @@ public final class ChoiceTest {
         check.due("stuck()", y.stuck(), 0);
     }
 
+    private static void fullHouse() {
+        check.part("promises 23, 25 and 26: twelve colours");
+        ColoursApart x = new ColoursApart();
+        for (int i = 0; i < 12; i++) {
+            x.add(0, i == 0);
+        }
+        check.taken("eleven moves", x, x.settle(16129), 11);
+        check.due("stuck()", x.stuck(), 0);
+        for (int i = 0; i < 12; i++) {
+            check.due("at least 16129 apart", x.of(i, 3) >= 16129 ? 1 : 0, 1);
+            check.taken("it stays", x, x.move(i == 0 ? 11 : i, 16129), 0);
+            x.fix(i, true);
+        }
+        check.due("count(1)", x.count(1), 12);
+        check.taken("15 places are left", x, x.best(5), 128 * 128);
+        check.taken("all are far enough", x, x.settle(16129), 0);
+        check.taken("all are FIXED", x, x.settle(17000), 0);
+        check.due("stuck()", x.stuck(), 1);
+    }
+
     private static void ramp() {
         check.part("promise 28");
         ColoursApart x = new ColoursApart();
@@ -349,6 +370,10 @@ public final class ChoiceTest {
         check.due("step(0)", x.step(0), 0x0000FF);
         check.due("step(1)", x.step(1), 0x002E24);
         check.due("light of point 220", x.light(0x002E23), 30);
+        x.ramp(0, 0x01FF00, 3);
+        check.due("red 127 / 255 is 0", x.step(1), 0x007F00);
+        x.ramp(0, 0x02FF00, 5);
+        check.due("red 128 / 255 is 1", x.step(1), 0x014000);
         check.taken("0 and 1 lie at one point", x, x.ramp(0, 0x000012, 12), 248);
         check.due("step(5): light 0", x.step(5), 0);
         check.due("step(6): light 1", x.step(6), 9);

@@ -181,6 +181,8 @@ public final class HouseTest {
                 check.taken("pair", x, x.pair(i, k, 10), told);
             }
         }
+        check.due("all are met", x.unmet(), -1);
+        check.taken("with all its pairs it stays", x, x.move(0, 1), 0);
         check.refused("a pair more", x, x.pair(6, 7, 10), -5);
         check.refused("-2 goes before -5", x, x.pair(6, 8, 10), -2);
         check.refused("-1 goes before -5", x, x.pair(6, 7, 9), -1);

@@ -10,6 +10,7 @@ public final class KeepingTest {
         whatIsKept();
         whatIsNotKept();
         imagesAreCopies();
+        pairsOfImages();
         back();
         count();
         statusOfEachCall();
@@ -132,6 +133,30 @@ public final class KeepingTest {
         check.due("count(2)", x.count(2), 0);
         check.due("seen(1, 5)", x.seen(1, 5), 5);
         check.taken("name(0, 0)", x, x.name(0, 0), 0);
+    }
+
+    private static void pairsOfImages() {
+        check.part("promise 33: pairs");
+        ColoursApart x = new ColoursApart();
+        x.add(0, false);
+        x.add(WHITE, false);
+        x.add(0, false);
+        x.image(0);
+        x.pair(2, 1, 200);
+        x.image(1);
+        x.back(0);
+        x.pair(0, 1, 200);
+        x.image(2);
+        x.back(1);
+        x.set(0, WHITE);
+        check.due("1 and 2 are met", x.unmet(), -1);
+        x.set(2, WHITE);
+        check.due("1 and 2 are not met", x.unmet(), 0);
+        x.back(2);
+        x.set(2, WHITE);
+        check.due("0 and 1 are met", x.unmet(), -1);
+        check.taken("0 and 1 are told again", x, x.pair(1, 0, 210), 1);
+        check.taken("0 and 2 are new", x, x.pair(2, 0, 10), 2);
     }
 
     private static void back() {

@@ -80,7 +80,7 @@ public final class SightsTest {
         check.refused("sheet(1, 0, MIN)", x, x.sheet(1, 0, MIN), -4);
         check.due("count(3)", x.count(3), 2);
         check.refused("write to what was taken away", x, x.write(1, 0, 1), -2);
-        fill(x, 2, 2, 0, 1000, 0, 0, 0, 1000, 1000, 0, 0);
+        fill(x, 2, 2, 1000, 1000, 1000, 1000, 1000, 1000, 1000, 1000, 1000);
         x.sheet(2, 2, 9);
         check.taken("weak of a row that was made anew", x, x.weak(1, 2, 0), 0);
         check.due("all numbers are 0 again", x.seen(1, WHITE), 0);
@@ -163,6 +163,10 @@ public final class SightsTest {
         check.due("499 is 0, 500 is 1", x.seen(1, 0x010000), 0x000103);
         check.due("499 and 1 are 1", x.seen(1, 0x010100), 0x010106);
         check.due("at most 255", x.seen(1, WHITE), 0x8080FF);
+        fill(x, 0, 2, 100, 0, 0, 999, 0, 0, 1001, 0, 0);
+        x.weak(1, 0, 0);
+        check.due("24499, 244755, 245245", x.seen(1, 0xF50000), 0x19F5F5);
+        check.due("24400, 243756, 244244", x.seen(1, 0xF40000), 0x18F4F4);
         fill(x, 0, 2, -499, 0, 0, -500, 0, 0, -501, 0, 1000);
         x.weak(2, 0, 0);
         check.due("at least 0", x.seen(2, 0xFF0000), 0);
@@ -316,6 +320,11 @@ public final class SightsTest {
         check.due("blue", x.light(0x0000FF), 29);
         check.due("white", x.light(WHITE), 255);
         check.due("black", x.light(0), 0);
+        check.due("red 10 is 2990", x.light(0x0A0000), 2);
+        check.due("red 11 is 3289", x.light(0x0B0000), 3);
+        check.due("green 46 is 27002", x.light(0x002E00), 27);
+        check.due("green 5 is 2935", x.light(0x000500), 2);
+        check.due("blue 35 is 3990", x.light(0x000023), 3);
         check.due("cut", x.light(0x000008), 0);
         check.due("not cut", x.light(0x000009), 1);
         check.due("light(-1)", x.light(-1), -1);
