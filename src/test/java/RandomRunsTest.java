@@ -2,8 +2,9 @@ import java.util.Random;
 
 /** All promises: runs of random calls, each answer compared with the plain model's. */
 public final class RandomRunsTest {
-    private static final int RUNS = 600;
-    private static final int CALLS = 250;
+    private static final int RUNS = 1200;
+    /** An object is used for at most 512 calls, and one turn of a run makes at most 20. */
+    private static final int CALLS = 512 - 20;
     private static final Check check = new Check();
 
     private final Random random;
@@ -17,20 +18,21 @@ public final class RandomRunsTest {
     public static void main(String[] args) {
         for (int seed = 0; seed < RUNS; seed++) {
             check.part("random run " + seed);
-            new RandomRunsTest(seed).run(CALLS);
+            new RandomRunsTest(seed).run();
         }
         check.end("RandomRunsTest");
     }
 
-    private void run(int calls) {
-        for (int c = 0; c < calls; c++) {
+    private void run() {
+        int before = check.calls();
+        while (check.calls() - before < CALLS) {
             switch (random.nextInt(4)) {
                 case 0: settings(); break;
                 case 1: house(); break;
                 case 2: choice(); break;
                 default: questions(); break;
             }
-            check.due("call " + c + ": status()", x.status(), y.status());
+            check.due("call " + (check.calls() - before) + ": status()", x.status(), y.status());
         }
     }
 
@@ -52,11 +54,11 @@ public final class RandomRunsTest {
 
     private int colour() {
         switch (random.nextInt(6)) {
-            case 0: return x.place(random.nextInt(8));
+            case 0: return y.place(random.nextInt(8));
             case 1: return random.nextInt(32) * 0x080808;
             case 2: return number(0, 0xFFFFFF);
             case 3: return random.nextInt(256) << 8 * random.nextInt(3);
-            case 4: return Math.max(0, x.of(random.nextInt(12), 0)) ^ random.nextInt(4);
+            case 4: return Math.max(0, y.of(random.nextInt(12), 0)) ^ random.nextInt(4);
             default: return random.nextInt(1 << 24);
         }
     }
@@ -116,8 +118,8 @@ public final class RandomRunsTest {
     }
 
     private void house() {
-        int i = number(0, Math.max(1, x.count(0)) - 1);
-        int k = number(0, Math.max(1, x.count(0)) - 1);
+        int i = number(0, Math.max(1, y.count(0)) - 1);
+        int k = number(0, Math.max(1, y.count(0)) - 1);
         int c = colour();
         boolean is = random.nextInt(4) == 0;
         switch (random.nextInt(8)) {
@@ -190,7 +192,7 @@ public final class RandomRunsTest {
     /** The model goes through every set: the dearest ones are seldom asked for. */
     private void bestBoth() {
         int n = number(1, 5);
-        boolean dear = n > 3 && x.count(4) == 64 || n > 4 && x.count(4) == 27;
+        boolean dear = n > 3 && y.count(4) == 64 || n > 4 && y.count(4) == 27;
         if (dear && random.nextInt(20) != 0) {
             n = 3;
         }

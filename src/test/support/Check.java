@@ -1,3 +1,5 @@
+import java.util.List;
+
 /** Counts answers that are not as due and tells them. */
 final class Check {
     private int calls = 0;
@@ -14,6 +16,20 @@ final class Check {
             wrong++;
             System.out.println(part + ": " + call + " answered " + got + ", due is " + want);
         }
+    }
+
+    /** Two rows of answers; the first that differs is told. */
+    void same(String what, List<Integer> got, List<Integer> want) {
+        int at = 0;
+        while (at < got.size() && at < want.size() && got.get(at).equals(want.get(at))) {
+            at++;
+        }
+        due(what + ": answers that are alike", at, want.size());
+        due(what + ": answers", got.size(), want.size());
+    }
+
+    int calls() {
+        return calls;
     }
 
     /** A call that is refused tells why by its answer and by status(). */
