@@ -21,6 +21,7 @@ public final class EdgesOfChoiceTest {
         moveItselfFirst();
         moveInBox();
         moveMeetsContrasts();
+        moveWithTwentyPairs();
         movePlacesOfEachGrid();
         settleRefused();
         settleOfFew();
@@ -365,6 +366,33 @@ public final class EdgesOfChoiceTest {
         x.pair(0, 2, 210);
         dueMove(x, 1, 1, 0, 0x000080);
         check.refused("its own are", x, x.move(2, 1), -6);
+    }
+
+    /** Twelve grey COLOURS; of the twenty PAIRS the first one is of 0 and 10, the last one of 9 and 11. */
+    private static ColoursApart twentyPairs(int first, int last) {
+        ColoursApart x = new ColoursApart();
+        x.grid(2);
+        for (int i = 0; i < 12; i++) {
+            x.add((100 + i) * 0x010101, false);
+        }
+        for (int p = 0; p < 20; p++) {
+            x.pair(p % 10, p < 10 ? 10 : 11, p == 0 ? first : p == 19 ? last : 10);
+        }
+        return x;
+    }
+
+    private static void moveWithTwentyPairs() {
+        check.part("25, IV: the first and the last of 20 PAIRS");
+        check.due("20 PAIRS", twentyPairs(10, 10).count(2), 20);
+        for (int i = 0; i < 12; i++) {
+            dueMove(twentyPairs(10, 10), i, 3, 0, (100 + i) * 0x010101);
+        }
+        dueMove(twentyPairs(11, 10), 0, 3, 3 * 100 * 100, 0);
+        dueMove(twentyPairs(11, 10), 10, 3, 3 * 110 * 110, 0);
+        dueMove(twentyPairs(11, 10), 9, 3, 0, 109 * 0x010101);
+        dueMove(twentyPairs(10, 11), 9, 3, 3 * 109 * 109, 0);
+        dueMove(twentyPairs(10, 11), 11, 3, 3 * 111 * 111, 0);
+        dueMove(twentyPairs(10, 11), 0, 3, 0, 100 * 0x010101);
     }
 
     private static void movePlacesOfEachGrid() {

@@ -256,6 +256,7 @@ public final class EdgesOfHouseTest {
     private static void boxRefused() {
         check.part("18: -1");
         edges.range("box(.., 0x404040, WHITE)", 0, 7, -1, (x, name) -> x.box(name, 0x404040, WHITE));
+        edges.range("box(.., 0, WHITE)", 0, 7, -1, (x, name) -> x.box(name, 0, WHITE));
         edges.range("box(0, .., WHITE)", 0, WHITE, -1, (x, from) -> x.box(0, from, WHITE));
         edges.range("box(0, 0, ..)", 0, WHITE, -1, (x, to) -> x.box(0, 0, to));
         edges.refused("box(8, -1, -1)", -1, x -> x.box(8, -1, -1));
@@ -293,6 +294,9 @@ public final class EdgesOfHouseTest {
         x.name(11, 3);
         check.refused("the last of twelve", x, x.box(3, 0, x.of(11, 0) - 1), -1);
         check.taken("the last of twelve", x, x.box(3, x.of(11, 0), x.of(11, 0)), 0);
+        x.name(0, 6);
+        check.refused("the first of twelve", x, x.box(6, 1, WHITE), -1);
+        check.taken("the first of twelve", x, x.box(6, 0, 0), 0);
     }
 
     private static void boxOfOthers() {

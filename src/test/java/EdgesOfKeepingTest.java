@@ -15,6 +15,8 @@ public final class EdgesOfKeepingTest {
         imageOfNone();
         imageOfAFullHouse();
         imageAnew();
+        imagesOfOtherPairs();
+        imagesOfOneLength();
         backRefused();
         backBringsAll();
         backLeavesTheRest();
@@ -131,6 +133,58 @@ public final class EdgesOfKeepingTest {
             check.taken("back(1)", x, x.back(1), 0);
             check.due("the latest of them", x.count(0), times);
             x.add(times, false);
+        }
+    }
+
+    private static void imagesOfOtherPairs() {
+        check.part("32, 33: each IMAGE has its own PAIRS");
+        int[][] pairs = {{0, 1}, {2, 3}, {4, 0}};
+        ColoursApart x = new ColoursApart();
+        for (int i = 0; i < 5; i++) {
+            x.add(0x101010, false);
+        }
+        for (int k = 0; k < 3; k++) {
+            x.pair(pairs[k][0], pairs[k][1], 11);
+            x.image(k);
+        }
+        for (int k = 0; k < 3; k++) {
+            x.back(k);
+            check.due("as many as came", x.count(2), k + 1);
+            for (int p = 0; p <= k; p++) {
+                check.taken("it is there", x, x.pair(pairs[p][1], pairs[p][0], 10), k + 1);
+            }
+            check.due("all are met", x.unmet(), -1);
+        }
+    }
+
+    private static void imagesOfOneLength() {
+        check.part("32, 33: the only PAIR of one IMAGE is of other COLOURS than that of another");
+        dueOnlyPairs(new int[] {0, 1}, 0, new int[] {0, 2}, -1);
+        dueOnlyPairs(new int[] {0, 3}, -1, new int[] {2, 3}, 0);
+        dueOnlyPairs(new int[] {1, 0}, 0, new int[] {1, 3}, -1);
+    }
+
+    /** Of four COLOURS, 0 and 1 black, 2 and 3 white, the only PAIR in IMAGES 0 and 1; there is none in 2. */
+    private static void dueOnlyPairs(int[] first, int unmetFirst, int[] second, int unmetSecond) {
+        ColoursApart x = new ColoursApart();
+        for (int i = 0; i < 4; i++) {
+            x.add(i < 2 ? 0 : WHITE, false);
+        }
+        x.image(2);
+        x.pair(first[0], first[1], 20);
+        x.image(0);
+        x.back(2);
+        x.pair(second[0], second[1], 20);
+        x.image(1);
+        for (int times = 0; times < 2; times++) {
+            x.back(0);
+            check.due("unmet() of the first", x.unmet(), unmetFirst);
+            x.back(1);
+            check.due("unmet() of the second", x.unmet(), unmetSecond);
+            check.taken("the first is no PAIR here", x, x.pair(first[0], first[1], 20), 2);
+            x.back(2);
+            check.due("no PAIR", x.unmet(), -1);
+            check.due("count(2)", x.count(2), 0);
         }
     }
 

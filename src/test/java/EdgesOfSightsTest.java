@@ -193,6 +193,15 @@ public final class EdgesOfSightsTest {
         x.sheet(0, INTS, 2);
         x.weak(1, 0, 0);
         check.due("what is not there any more is 0", x.seen(1, WHITE), 0);
+        check.part("2, 4: 0, not below it");
+        x.sheet(0, INTS, 60);
+        x.write(0, 0, 500);
+        x.weak(1, 0, 0);
+        check.due("500 red and nothing of 255 green and blue", x.seen(1, 0x01FFFF), 0x010000);
+        x.sheet(0, INTS, 1);
+        x.write(0, 0, 500);
+        x.weak(1, 0, 0);
+        check.due("numbers that are not there", x.seen(1, 0x01FFFF), 0x010000);
     }
 
     private static void writeRefused() {
@@ -222,13 +231,14 @@ public final class EdgesOfSightsTest {
         check.due("red of red, blue of blue", x.seen(1, 0x0A0B0C), 0x0A0006);
     }
 
-    /** What is seen of red 255 by a sight with this number alone: (255 number + 500) / 1000. */
+    /** What is seen of white by a row of three times this number: (765 number + 500) / 1000. */
     private static void dueNumber(int sort, int v, int number) {
         ColoursApart x = new ColoursApart();
-        Busy.fill(x, 0, sort, v, 0, 0, 0, v);
+        Busy.fill(x, 0, sort, v, v, v, 0, v);
         check.taken("weak of " + v, x, x.weak(1, 0, 0), 0);
-        int due = Math.max(0, Math.min(255, Math.floorDiv(255 * number + 500, 1000)));
-        check.due(v + " is read as " + number, x.seen(1, 0xFFFF00), due * 0x010100);
+        int red = Math.max(0, Math.min(255, Math.floorDiv(765 * number + 500, 1000)));
+        int green = Math.max(0, Math.min(255, Math.floorDiv(255 * number + 500, 1000)));
+        check.due(v + " is read as " + number, x.seen(1, WHITE), red * 0x010000 + green * 0x000100);
     }
 
     private static void dueTooFar(int sort, int v) {
@@ -242,13 +252,15 @@ public final class EdgesOfSightsTest {
     private static void bytes() {
         check.part("3: as a byte has its lowest bits; VI: 0 .. 255 as they are read");
         dueNumber(BYTES, 0, 0);
+        dueNumber(BYTES, 1, 1);
         dueNumber(BYTES, 2, 2);
         dueNumber(BYTES, 127, 127);
         dueNumber(BYTES, 128, 128);
         dueNumber(BYTES, 254, 254);
         dueNumber(BYTES, 255, 255);
         dueNumber(BYTES, 256, 0);
-        dueNumber(BYTES, 256 + 2, 2);
+        dueNumber(BYTES, 257, 1);
+        dueNumber(BYTES, 258, 2);
         dueNumber(BYTES, 511, 255);
         dueNumber(BYTES, 512, 0);
         dueNumber(BYTES, -1, 255);
