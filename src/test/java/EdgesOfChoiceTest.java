@@ -19,6 +19,7 @@ public final class EdgesOfChoiceTest {
         moveByDAtLeast();
         moveFromAllOthers();
         moveItselfFirst();
+        moveInPlain();
         moveInBox();
         moveMeetsContrasts();
         moveWithTwentyPairs();
@@ -31,6 +32,7 @@ public final class EdgesOfChoiceTest {
         settleFirstAsRows();
         settleMovedOnesStay();
         settleTwelve();
+        settleEnds();
         stuck();
         rampRefused();
         rampDarker();
@@ -316,6 +318,15 @@ public final class EdgesOfChoiceTest {
         dueMove(y, 0, 2, 65026, 0x00FF00);
     }
 
+    private static void moveInPlain() {
+        check.part("25, IV: of least DISTANCE in PLAIN, though GREY alone COUNTS");
+        for (int d : new int[] {2523, 2524}) {
+            ColoursApart x = blackAnd(0x0000FF);
+            x.sights(16);
+            dueMove(x, 1, d, d == 2523 ? 0 : 65025, d == 2523 ? 0x0000FF : 0x00FFFF);
+        }
+    }
+
     private static void moveInBox() {
         check.part("25, IV: in its NAME's box");
         for (int step : new int[] {0, 1}) {
@@ -576,6 +587,28 @@ public final class EdgesOfChoiceTest {
         }
         dueSettle("they are apart now", x, 16128, 0, 0);
         dueSettle("they are apart now", x, 16129, 0, 0);
+    }
+
+    /** A moved one is D apart from all others, so each is moved once at most, and one of them never. */
+    private static void settleEnds() {
+        check.part("26: (Ended after 50 MOVES at most, as STUCK.)");
+        int number = 1;
+        for (int times = 0; times < 200; times++) {
+            ColoursApart x = new ColoursApart();
+            x.grid(2 + times % 3);
+            for (int i = 0; i < 12; i++) {
+                number = number * 1103515245 + 12345;
+                x.add(number >>> 8 & 0x3F3F3F, i % 4 == times % 5);
+            }
+            int d = 1 + times * times;
+            int moves = x.settle(d);
+            check.due("0 .. 11 moves (" + moves + ")", moves >= 0 && moves <= 11 ? 1 : 0, 1);
+            int least = FARTHEST;
+            for (int i = 0; i < 12; i++) {
+                least = Math.min(least, x.of(i, 3));
+            }
+            check.due("STUCK if two are APART by less than D", x.stuck(), least < d ? 1 : 0);
+        }
     }
 
     private static void stuck() {
