@@ -68,6 +68,11 @@ final class SentencesOfPromises {
         check.taken("a row of bytes", x, x.sheet(2, 0, 40), 40);
         x.weak(1, 2, 0);
         check.due("numbers 0", x.seen(1, WHITE), 0);
+        x.sheet(1, 2, 9);
+        x.write(1, 0, 500);
+        x.weak(1, 1, 0);
+        check.due("not below 0 either", x.seen(1, 0x01FFFF), 0x010000);
+        x.sheet(1, 2, -1);
         x.write(2, 0, 1000);
         check.taken("as bytes", x, x.weak(1, 2, 0), 0);
         check.due("1000 is 232", x.seen(1, 0x640000), 23 << 16);
@@ -303,9 +308,12 @@ final class SentencesOfPromises {
         check.refused("red", x, x.box(5, 0x010000, 0x00FFFF), -1);
         check.refused("green", x, x.box(5, 0x000100, 0xFF00FF), -1);
         check.refused("blue", x, x.box(5, 0x000001, 0xFFFF00), -1);
-        check.refused("from", x, x.box(5, -1, 0), -1);
-        check.refused("to", x, x.box(5, 0, WHITE + 1), -1);
-        check.refused("a NAME", x, x.box(8, 0, 0), -1);
+        check.refused("from below", x, x.box(5, -1, WHITE), -1);
+        check.refused("from above", x, x.box(5, WHITE + 1, WHITE), -1);
+        check.refused("to below", x, x.box(5, 0, -1), -1);
+        check.refused("to above", x, x.box(5, 0, WHITE + 1), -1);
+        check.refused("NAME 8", x, x.box(8, 0, WHITE), -1);
+        check.refused("NAME -1", x, x.box(-1, 0, WHITE), -1);
         check.refused("outside", x, x.box(4, 0x203031, WHITE), -1);
         check.taken("it was not changed", x, x.set(0, 0x203010), 0x203030);
     }
@@ -382,6 +390,7 @@ final class SentencesOfPromises {
         x.add(0x000018, true);
         check.due("8 8", x.of(0, 3), 64);
         check.due("24 24", x.of(1, 3), 576);
+        check.due("the first is nearest", x.of(2, 3), 64);
         x.sights(32);
         check.due("in PRINT alike", x.of(0, 3), 0);
         check.due("in PRINT 64 and 0", x.of(1, 3), 4096);
@@ -551,9 +560,10 @@ final class SentencesOfPromises {
         check.due(when + ": 125 / 77 is not below 1.5", x.unmet(), -1);
         check.due(when + ": PAIRS", x.count(2), 1);
         check.due(when + ": SIGHTS", x.seen(3, 0x001100), 0x110000);
-        check.due(when + ": LEVELS", x.seen(5, 0x505050), 0x555555);
+        check.due(when + ": FIXED ones", x.count(1), 1);
+        check.due(when + ": LEVELS", x.seen(5, 0x222222), 0);
         check.due(when + ": WEIGHTS", x.distance(0, 0, 0x010101), 6);
-        check.due(when + ": what COUNTS", x.apart(0x010003, 0x040005), 0);
+        check.due(when + ": what COUNTS", x.sights(9), 9);
         check.due(when + ": L", x.count(4), 64);
     }
 
@@ -597,6 +607,17 @@ final class SentencesOfPromises {
             check.taken("back(1)", x, x.back(1), 0);
             dueAsSettled("time " + times, x);
         }
+        ColoursApart y = houseOf(0, WHITE, 0, WHITE);
+        y.image(0);
+        y.pair(3, 2, 200);
+        y.image(1);
+        y.back(0);
+        y.pair(0, 1, 200);
+        y.back(1);
+        y.set(0, WHITE);
+        check.due("a PAIR of 2 and 3", y.unmet(), -1);
+        y.set(3, 0);
+        check.due("a PAIR of 2 and 3", y.unmet(), 0);
         document.says("-1;");
         check.refused("-1", x, x.back(-1), -1);
         check.refused("3", x, x.back(3), -1);
@@ -614,8 +635,9 @@ final class SentencesOfPromises {
         x.pair(0, 1, 10);
         x.pair(0, 2, 10);
         x.pair(0, 3, 10);
-        x.sheet(1, 0, 0);
-        int[] due = {5, 2, 3, 1, 27};
+        x.sheet(0, 0, 0);
+        x.sheet(3, 0, 0);
+        int[] due = {5, 2, 3, 2, 27};
         for (int what = 0; what < 5; what++) {
             check.due("count(" + what + ")", x.count(what), due[what]);
         }

@@ -90,10 +90,12 @@ final class SentencesOfTerms {
         check.due("255, 510, 765", x.seen(1, WHITE), 0x000101);
         check.due("249, 498, 747", x.seen(1, 0xF9F9F9), 0x000001);
         check.due("250, 500, 750", x.seen(1, 0xFAFAFA), 0x000101);
+        check.due("100499 and 100500", weakEye(1000, 499, 500, 1000, 500).seen(1, 0x640100), 0x646500);
         ColoursApart y = weakEye(-1, 0, 0, 3000, 0, 0, 3000, -3000, 0);
         check.due("-255, 765000, 0", y.seen(1, 0xFFFF00), 0x00FF00);
         check.due("-255, 765000, 762000", y.seen(1, 0xFF0100), 0x00FFFF);
-        check.due("-1, 255000, 252000", y.seen(1, 0x550100), 0x00FFFC);
+        check.due("-85, 255000, 252000", y.seen(1, 0x550100), 0x00FFFC);
+        check.due("-765000 of each", weakEye(-3000, 0, 0, 0, -3000, 0, 0, 0, -3000).seen(1, WHITE), 0);
         document.says("At first WEAK ones are as PLAIN (1000 of each to itself).");
         for (int sight = 1; sight <= 3; sight++) {
             check.due("WEAK " + sight, new ColoursApart().seen(sight, 0x37A2F1), 0x37A2F1);
@@ -133,6 +135,10 @@ final class SentencesOfTerms {
         check.due("2.869", x.light(0x030207), 2);
         check.due("124.2", x.light(0xC86432), 124);
         check.due("255", x.light(WHITE), 255);
+        int[][] due = {{0xFA0000, 74}, {0x610000, 29}, {0x00FA00, 146}, {0x002E00, 27}, {0x0000C8, 22}, {0x00004F, 9}};
+        for (int[] row : due) {
+            check.due("just below, just above a whole number", x.light(row[0]), row[1]);
+        }
         document.says("DISTANCE of two COLOURS in a SIGHT: of what is seen the squares of the differences,"
                 + " times WEIGHTS (three, 0 .. 10; 1 at first), summed.");
         check.due("9 + 16 + 100", x.distance(0, 0x0A141E, 0x0D1014), 125);
@@ -249,6 +255,10 @@ final class SentencesOfTerms {
         check.due("67 / 13 is not below 5.1", y.unmet(), -1);
         y.pair(0, 1, 52);
         check.due("67 / 13 is below 5.2", y.unmet(), 0);
+        y.set(1, 0x343434);
+        y.pair(0, 1, 50);
+        check.due("65 / 13 is 5", y.unmet(), -1);
+        y.set(1, 0x363636);
         document.says("of a PAIR that is told again the c is changed.");
         check.due("as it was told", y.pair(0, 1, 51), 1);
         check.due("met", y.unmet(), -1);
@@ -302,8 +312,14 @@ final class SentencesOfTerms {
         check.due("FREE ones alone", x.best(1), FARTHEST);
         x.fix(0, true);
         check.due("a FIXED one", x.best(1), 195075);
+        x.weights(0, 0, 0);
+        check.due("a FIXED one, but all are alike", x.best(1), 0);
         document.says("of all such the first as rows.");
         x.fix(0, false);
+        check.due("all are alike", x.best(3), 0);
+        for (int k = 0; k < 3; k++) {
+            check.due("chosen(" + k + ")", x.chosen(k), k);
+        }
         x.weights(1, 1, 0);
         check.due("four corners without blue", x.best(4), 65025);
         int[] due = {0, 2, 4, 6};
@@ -409,6 +425,15 @@ final class SentencesOfTerms {
         x.pair(2, 0, 90);
         check.due("nor does 118 / 14 meet 9", x.move(2, 257), 65025);
         check.due("white", x.of(2, 0), WHITE);
+        ColoursApart y = houseOf(0x101010, 0x000000);
+        y.pair(0, 1, 100);
+        check.due("of the lower one of a PAIR too: 118 / 13 is below 10, 162 / 13 is not", y.move(0, 1), 239 * 239 + 512);
+        check.due("green", y.of(0, 0), 0x00FF00);
+        ColoursApart z = houseOf(0x000008, 0x000009);
+        z.sights(1 + 16);
+        check.due("3 APART in GREY, but 1 in PLAIN", z.move(1, 2), 246 * 246);
+        z.set(1, 0x000007);
+        check.due("1 APART in PLAIN, but 0 in GREY", z.move(1, 1), 248 * 248);
     }
 
     private void settle() {
@@ -518,6 +543,8 @@ final class SentencesOfTerms {
         check.due("in PLAIN", x.rising(0), 1);
         check.due("in GREY", x.rising(4), 1);
         check.due("blue alone falls", x.rising(1), 0);
+        x.ramp(0x0000FF, 0xFFFF00, 2);
+        check.due("blue alone falls in two steps", x.rising(1), 0);
         x.ramp(0, 0x4000FF, 4);
         check.due("blue alone grows", x.rising(1), 1);
         x.levels(3);
@@ -544,6 +571,11 @@ final class SentencesOfTerms {
         check.due("3 to none", y.group(0, 257, 3), 3);
         check.due("3 by 0", y.group(0, 6401, 3), 0);
         check.due("not by 6400", y.group(0, 6400, 3), 3);
+        ColoursApart z = houseOf(9, 8, 7, 6, 5, 4, 3, 2, 1, 0, 10, 11);
+        for (int i = 0; i < 12; i++) {
+            check.due("twelve in a row", z.group(0, 2, i), 0);
+            check.due("each alone", z.group(0, 1, i), i);
+        }
     }
 
     private void sheets() {
